@@ -259,6 +259,14 @@ public final class DrawsSheetsImagesTest {
         x.change(0, 5, 8);
         x.undo();
         DUE.is("40: what was kept latest", x.rankOf(0, 5), 9);
+        Due.column(x, "free 2 every 1 drift 5");
+        x.worst(3);
+        x.worst(4);
+        x.undo();
+        x.tread(1);
+        Due.column(x, "keep 2 every 1");
+        DUE.is("40: nothing of those that are gone", x.rankOf(2, 5), 0);
+        DUE.is("40: nor of the other one", x.rankOf(3, 5), 0);
         LongColumn y = new LongColumn();
         y.image();
         Due.column(y, "keep 2 every 1");

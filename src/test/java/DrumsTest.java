@@ -29,6 +29,14 @@ public final class DrumsTest {
         DUE.is("20: -1", x.place(0, -1), Due.BEYOND);
         DUE.is("20: drum 1", x.place(1, 0), Due.BEYOND);
         DUE.is("20: drum -1", x.place(-1, 0), Due.BEYOND);
+        x = Due.of("ear 5 every 55 part 100");
+        x.drum(0, 99, 0);
+        x.rule(0, 100);
+        // two RANKS are one PACE: from everywhere somebody is half a PACE off
+        DUE.is("20: by a new PACE", x.place(0, 1), 0);
+        x = Due.of("ear 5 every 55 part 50");
+        x.drum(0, 99, 0);
+        DUE.is("20: each from the start", x.place(0, 1), 2);
         LongColumn y = Due.of("ear 4 every 55 part 100");
         y.drum(0, 99, 0);
         DUE.is("20: the least of two", y.place(0, 1), 1);
@@ -54,6 +62,11 @@ public final class DrumsTest {
         DUE.is("21: the same", x.both(1, 1, 1), Due.BEYOND);
         DUE.is("21: drum 2", x.both(0, 2, 1), Due.BEYOND);
         DUE.is("21: drum -1", x.both(-1, 0, 1), Due.BEYOND);
+        x = Due.of("ear 6 every 55 part 100");
+        x.drum(0, 99, 0);
+        x.drum(0, 99, 0);
+        x.rule(0, 100);
+        DUE.is("21: by a new PACE", x.both(0, 1, 1), 0);
         LongColumn y = Due.of("ear 1 every 1;keep 1 every 55");
         y.drum(10, 99, 0);
         y.drum(20, 99, 0);
@@ -73,6 +86,7 @@ public final class DrumsTest {
         DUE.is("22: nothing changes", x.drumOf(0, 2), 0);
         DUE.is("22: the other one ahead", x.two(1, 0, 1, 0), -25);
         DUE.is("22: n 0", x.two(0, 1, 0, 0), Due.BEYOND);
+        DUE.holds("22: n 99", x.two(0, 1, 99, 0) > Due.BEYOND);
         DUE.is("22: n 100", x.two(0, 1, 100, 0), Due.BEYOND);
         DUE.is("22: what 2", x.two(0, 1, 1, 2), Due.BEYOND);
         DUE.is("22: what -1", x.two(0, 1, 1, -1), Due.BEYOND);

@@ -144,6 +144,11 @@ public final class RulesTextsTest {
         DUE.is("5: place of 9", x.rankOf(9, 1), 440);
         DUE.is("5: place of 10", x.rankOf(10, 1), 441);
         DUE.is("5: words of a GROUP are its own", x.rankOf(10, 2), 50);
+        LongColumn y = Due.of("free 1 every 1 part 7 share 8 drift 9");
+        Due.column(y, "free 1 every 1");
+        DUE.is("5: words of a TEXT are its own, part", y.rankOf(1, 2), 50);
+        DUE.is("5: words of a TEXT are its own, share", y.rankOf(1, 3), 50);
+        DUE.is("5: words of a TEXT are its own, drift", y.rankOf(1, 4), 0);
         StringBuilder most = new StringBuilder("ear1every1");
         for (int i = 1; i < 11; i++) {
             most.append(";ear1every1");
@@ -175,6 +180,9 @@ public final class RulesTextsTest {
         fault("12", 0);
         fault("ears 1 every 1", 0);
         fault("earevery", 0);
+        fault("earz 1 every 1", 0);
+        fault("xar 1 every 1", 0);
+        fault("ear 1 avery 1", 6);
         fault(" Ear 1 every 1", 1);
         fault("every 1 ear 1", 0);
         fault("ear every 1", 4);
@@ -303,6 +311,9 @@ public final class RulesTextsTest {
         DUE.is("6: MIXED of RANK 0", x.rankOf(0, 7), -25);
         x.bend(30);
         DUE.is("6: MIXED behind a BEND", x.rankOf(1, 7), 18);
+        LongColumn y = Due.of("keep 1 every 1;mix 1 every 1 part 100 share 100");
+        y.change(0, 5, 99);
+        DUE.is("6: MIXED, whole", y.rankOf(1, 7), 99);
     }
 
     private static void turnOfFeet() {
@@ -332,6 +343,12 @@ public final class RulesTextsTest {
         DUE.is("6: FEET as EAR", x.rankOf(1, 7), 29);
         LongColumn y = Due.of("feet 1 every 1");
         DUE.is("6: FEET alone", y.rankOf(0, 7), 0);
+        y = Due.of("feet 2 every 10 part 100;keep 1 every 20");
+        // LAG 9 from 10 feet off, 18 from 20, 27 from 30
+        DUE.is("6: FEET of RANK 0", y.rankOf(0, 7), 18);
+        DUE.is("6: FEET by two", y.rankOf(1, 7), 13);
+        y.rule(3, 15);
+        DUE.is("6: FEET by one", y.rankOf(1, 7), 9);
     }
 
     private static void change() {

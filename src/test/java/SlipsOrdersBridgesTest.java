@@ -39,12 +39,21 @@ public final class SlipsOrdersBridgesTest {
         DUE.is("25: what -1", x.slip(0, 0, 0, -1), Due.BEYOND);
         DUE.is("25: what 3", x.slip(0, 0, 0, 3), Due.BEYOND);
         DUE.is("25: the edges", x.slip(0, 999, 99, 1), 1);
+        DUE.is("25: the other edges", x.slip(0, -999, 0, 1), 1);
+        DUE.is("25: RANK 0", x.slip(0, 7, 0, 1), 7);
+        x.change(1, 5, 0);
+        x.change(2, 5, 1);
+        // 4 comes to 2, -2 to -1, and 1 stays
+        DUE.is("25: by so much more", x.slip(2, 3, 1, 1), 1);
+        DUE.is("25: by so much less", x.slip(2, -3, 1, 1), 2);
     }
 
     private static void slipEnds() {
         LongColumn x = Due.of("keep 1 every 1;eye 3 every 1 part 100");
         // each one passes it on and forgets it
         DUE.is("25: gone behind 3", x.slip(1, 7, 99, 2), 3);
+        LongColumn y = Due.of("keep 1 every 1;eye 1 every 1 part 100;free 1 every 1 drift 9");
+        DUE.is("25: others go on alike", y.slip(1, 7, 99, 2), 1);
         DUE.is("25: gone just in 3", x.slip(1, 7, 3, 2), 3);
         DUE.is("25: not in 2", x.slip(1, 7, 2, 2), Due.NONE);
         DUE.is("25: the last one", x.slip(3, 7, 99, 2), 1);
