@@ -46,6 +46,7 @@ final class Due {
         is(what + ": findings of this sort", x.status(BEYOND - finding), such + 1);
         String after = Seen.of(x);
         holds(what + ": nothing changes, not from " + before + " to " + after, after.equals(before));
+        is(what + ": what is kept stays", x.undo(), made.get().undo());
     }
 
     /** The answer of column() to a text that is put on an empty tape. */
@@ -78,7 +79,9 @@ final class Due {
 
     /** A column in which there is something of everything, so that a change would be seen. */
     static LongColumn some() {
-        LongColumn x = of("ear 1 every 1;eye 1 every 30;free 1 every 30 drift 7");
+        LongColumn x = of("ear 1 every 1;eye 1 every 30");
+        x.image();
+        column(x, "free 1 every 30 drift 7");
         x.change(0, 5, 40);
         x.change(2, 5, -60);
         x.drum(0, 50, 0);

@@ -217,6 +217,8 @@ public final class Promise05ColumnTest {
         for (int sign : none) {
             LongColumn x = new LongColumn();
             due.is(sign + " for a kind", Due.column(x, (char) sign + "ear 1 every 1"), -1);
+            due.is(sign + " just behind a WORD", Due.column(x, "ear" + (char) sign + " 1 every 1"), -4);
+            due.is(sign + " just behind a NUMBER", Due.column(x, "ear 1" + (char) sign + "every 1"), -6);
             due.is(sign + " within a WORD", Due.column(x, "ear 1 eve" + (char) sign + "ry 1"), -7);
             due.is(sign + " for every", Due.column(x, "ear 1 " + (char) sign), -7);
             due.is(sign + " for a NUMBER", Due.column(x, "ear 1 every " + (char) sign), -13);

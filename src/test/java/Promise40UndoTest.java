@@ -85,7 +85,7 @@ public final class Promise40UndoTest {
     @Sentence("NONE: nothing is kept.")
     static void nothingIsKept(Due due) {
         due.refuses("at first", Due.NONE, LongColumn::new, LongColumn::undo);
-        due.refuses("it never was", Due.NONE, Due::some, LongColumn::undo);
+        due.refuses("it never was", Due.NONE, () -> Due.of("ear 3 every 1"), LongColumn::undo);
         due.refuses("it was torn", Due.NONE, Promise40UndoTest::torn, LongColumn::undo);
     }
 
