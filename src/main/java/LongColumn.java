@@ -19,7 +19,6 @@ public final class LongColumn {
     private static final int WORD = 5;
     private static final int HAND = 6;
     private static final int RULES = 7;
-    // PACE and SPEED less WIND stay above 0 by these bounds, so that both may divide.
     private static final int[] RULE_LEAST = {100, 500, -200, 0, -999, 0, 0};
     private static final int[] RULE_MOST = {2000, 2000, 200, 500, 999, 999, 999};
     private static final int[] RULE_FIRST = {500, 1100, 0, 30, 0, 100, 20};
@@ -706,6 +705,9 @@ public final class LongColumn {
 
     /** Its double is more than less PACE, and PACE at most. */
     private static int wrapped(int number, int pace) {
+        if (pace < 1) {
+            return number;
+        }
         int rest = number % pace;
         if (2 * rest > pace) {
             return rest - pace;
@@ -719,7 +721,7 @@ public final class LongColumn {
 
     private static boolean isUnder(int kind, int above) {
         int k = kind;
-        for (int i = 0; i < KINDS && k >= 0; i++) {
+        for (int i = 0; i < KINDS && isWithin(k, 0, KINDS - 1); i++) {
             if (k == above) {
                 return true;
             }
@@ -817,7 +819,7 @@ public final class LongColumn {
     private int treadSoonBehind(int first, int from, int to, int t) {
         int together = 0;
         for (int rank = 0; rank < now.ranks; rank++) {
-            int behind = Math.floorMod(plain.outs[rank] - plain.outs[first], now.rules[PACE]);
+            int behind = now.roundPace(plain.outs[rank] - plain.outs[first]);
             if (isWithin(now.at[rank], from, to) && behind <= t) {
                 together++;
             }
@@ -879,6 +881,12 @@ public final class LongColumn {
             return wrapped(number, rules[PACE]);
         }
 
+        /** A difference as one of 0 to PACE less 1. */
+        int roundPace(int difference) {
+            int nearest = wrap(difference);
+            return nearest < 0 ? nearest + rules[PACE] : nearest;
+        }
+
         void wrapAnew() {
             for (int rank = 0; rank < ranks; rank++) {
                 out[rank] = wrap(out[rank]);
@@ -900,10 +908,8 @@ public final class LongColumn {
         }
 
         int lagBetween(int from, int to) {
-            if (to > from) {
-                return (to - from) * 1000 / (rules[SPEED] + rules[WIND]);
-            }
-            return (from - to) * 1000 / (rules[SPEED] - rules[WIND]);
+            int speed = to > from ? rules[SPEED] + rules[WIND] : rules[SPEED] - rules[WIND];
+            return speed > 0 ? Math.abs(to - from) * 1000 / speed : 0;
         }
 
         int drumFor(int rank) {

@@ -5,36 +5,60 @@ import java.lang.reflect.Method;
 import java.lang.reflect.Modifier;
 import java.nio.file.Files;
 import java.nio.file.Path;
+import java.util.ArrayList;
 import java.util.Arrays;
 import java.util.HashSet;
 import java.util.List;
 import java.util.Set;
 import java.util.TreeSet;
+import java.util.regex.Matcher;
+import java.util.regex.Pattern;
 
-/** The public face, and those rules of LANGUAGE.md that can be seen from outside or in the source. */
+/**
+ * The public face and its headings, as the document tells them ahead of the promises, and those rules of
+ * LANGUAGE.md that can be seen from outside or in the source.
+ */
 public final class FaceTest {
     private static final Due DUE = new Due();
     private static final Path SOURCE = Path.of("src/main/java/LongColumn.java");
-    /** Each act, and how many ints it takes. */
-    private static final String FACE = "rule2 feed2 wipe0 column0 rankOf2 change3 drum3 drumOf2 carry2 bend1 lag2 "
-            + "tread1 march2 worst1 right2 settles0 round1 better1 place2 both3 two4 opposite1 edges4 "
-            + "slip4 begin2 apart1 bridge4 broken4 seed1 shake1 hold2 as2 sheet3 write3 copy5 load1 judge1 "
-            + "image0 undo0 tear0 count1 status1";
+    private static final Path DOCUMENT = Path.of("../shared/DOC.md");
+    private static final int PROMISES = 43;
     private static final List<Class<?>> CONSTANTS = List.of(int.class, long.class, boolean.class, char.class,
             String.class, int[].class, long[].class, char[].class, byte[].class);
 
     public static void main(String[] args) throws IOException {
-        face();
+        String document = Files.readString(DOCUMENT);
+        List<String> source = Files.readAllLines(SOURCE);
+        List<String> face = faceOf(document);
+        DUE.is("members of the face, one for each promise", face.size(), PROMISES);
+        members(face);
+        isWrittenAsTold(face, source);
+        headings(document, source);
         classesInside();
-        members(LongColumn.class);
+        rulesOfMembers(LongColumn.class, face);
         for (Class<?> inside : LongColumn.class.getDeclaredClasses()) {
-            members(inside);
+            rulesOfMembers(inside, face);
         }
-        source();
+        rulesOfLines(source);
+        divisors(source);
         DUE.end();
     }
 
-    private static void face() {
+    /** Constructor and acts as the document writes them, in its order. */
+    private static List<String> faceOf(String document) {
+        List<String> face = new ArrayList<>();
+        Matcher member = Pattern.compile("(?m)^    (public .*\\));$").matcher(document);
+        while (member.find()) {
+            face.add(member.group(1));
+        }
+        return face;
+    }
+
+    private static String nameOf(String member) {
+        return member.replaceAll("\\(.*", "").replaceAll(".* ", "");
+    }
+
+    private static void members(List<String> face) {
         DUE.holds("the class is public and final",
                 LongColumn.class.getModifiers() == (Modifier.PUBLIC | Modifier.FINAL));
         DUE.holds("it has no package", LongColumn.class.getPackageName().isEmpty());
@@ -48,7 +72,12 @@ public final class FaceTest {
                         Arrays.stream(m.getParameterTypes()).allMatch(t -> t == int.class));
             }
         }
-        Set<String> due = new TreeSet<>(Arrays.asList(FACE.split(" ")));
+        Set<String> due = new TreeSet<>();
+        for (String member : face) {
+            if (!nameOf(member).equals("LongColumn")) {
+                due.add(nameOf(member) + (member.split("int ").length - 2));
+            }
+        }
         DUE.holds("the acts are " + due + ", not " + has, has.equals(due));
         Constructor<?>[] made = LongColumn.class.getDeclaredConstructors();
         DUE.holds("one constructor", made.length == 1 && made[0].getParameterCount() == 0
@@ -56,6 +85,42 @@ public final class FaceTest {
         for (Field f : LongColumn.class.getDeclaredFields()) {
             DUE.holds(f + " is private", Modifier.isPrivate(f.getModifiers()));
         }
+    }
+
+    /** In the document's order, with the names that it gives to what is told. */
+    private static void isWrittenAsTold(List<String> face, List<String> source) {
+        List<String> written = new ArrayList<>();
+        for (String line : source) {
+            if (line.matches(" {4}public (?!final).*\\{")) {
+                written.add(line.trim().replace(" {", ""));
+            }
+        }
+        DUE.holds("the face is " + face + ", not " + written, written.equals(face));
+    }
+
+    private static void headings(String document, List<String> source) {
+        Matcher told = Pattern.compile("(?m)^Ahead of the calls (.*) the interface says: (.*)\\.$").matcher(document);
+        int acts = 0;
+        while (told.find()) {
+            for (String act : told.group(1).replace("`", "").split(", ")) {
+                acts++;
+                DUE.holds(act + " stands below " + told.group(2), headingOf(act, source).equals(told.group(2)));
+            }
+        }
+        DUE.is("acts below a heading", acts, PROMISES - 1);
+    }
+
+    private static String headingOf(String act, List<String> source) {
+        String heading = "";
+        for (String line : source) {
+            if (line.startsWith("    // ----")) {
+                heading = line.trim().substring(3);
+            }
+            if (line.startsWith("    public int " + act + "(")) {
+                return heading;
+            }
+        }
+        return "nothing";
     }
 
     private static void classesInside() {
@@ -68,8 +133,11 @@ public final class FaceTest {
         }
     }
 
-    private static void members(Class<?> c) {
-        Set<String> acts = new HashSet<>(Arrays.asList(FACE.replaceAll("[0-9]", "").split(" ")));
+    private static void rulesOfMembers(Class<?> c, List<String> face) {
+        Set<String> acts = new HashSet<>();
+        for (String member : face) {
+            acts.add(nameOf(member));
+        }
         for (Method m : c.getDeclaredMethods()) {
             DUE.holds(m + " has a name of its own",
                     Modifier.isPublic(m.getModifiers()) || !acts.contains(m.getName()));
@@ -87,11 +155,19 @@ public final class FaceTest {
         DUE.holds(c + " has some twenty fields at most", own <= 20);
     }
 
-    private static void source() throws IOException {
+    private static String codeOf(String line) {
+        return line.replaceAll("//.*|^ *(/\\*)?\\*.*|\"[^\"]*\"", "").trim();
+    }
+
+    private static boolean beginsMethod(String line) {
+        return line.matches(" {4}( {4})?(private |public |static |int |boolean |void |String )+\\w+\\(.*\\{");
+    }
+
+    private static void rulesOfLines(List<String> source) {
         String indent = "";
         int length = 0;
-        for (String line : Files.readAllLines(SOURCE)) {
-            String code = line.replaceAll("//.*|^ *(/\\*)?\\*.*|\"[^\"]*\"", "").trim();
+        for (String line : source) {
+            String code = codeOf(line);
             DUE.holds("no such word: " + line, !code.matches(
                     ".*\\b(throw|throws|try|catch|synchronized|assert|Integer|Long|Object|System(?!\\.arraycopy))\\b.*"));
             DUE.holds("no lambda, no method reference: " + line, !code.contains("->") && !code.contains("::"));
@@ -100,7 +176,7 @@ public final class FaceTest {
             DUE.holds("made with its owner alone: " + line, !code.matches(".*\\bnew\\b.*")
                     || code.matches("(private )?(final )?\\S+ \\w+ = new .*") && !line.startsWith("            ")
                     || code.equals("sheets[s] = new Sheet();"));
-            if (line.matches(" {4}( {4})?(private |public |static |int |boolean |void |String )+\\w+\\(.*\\{")) {
+            if (beginsMethod(line)) {
                 indent = line.substring(0, line.length() - line.stripLeading().length());
                 length = 0;
             }
@@ -110,5 +186,36 @@ public final class FaceTest {
                 indent = "";
             }
         }
+    }
+
+    /** A divisor is a number that is written out, or is looked at in the method that divides by it. */
+    private static void divisors(List<String> source) {
+        Pattern dividing = Pattern.compile("[/%]=? *(\\([^()]*\\)|[\\w.]+(\\[\\w+\\])?)");
+        StringBuilder method = new StringBuilder();
+        int found = 0;
+        for (String line : source) {
+            if (beginsMethod(line)) {
+                method.setLength(0);
+            }
+            String code = codeOf(line);
+            method.append(code).append('\n');
+            DUE.holds("no hidden division: " + line, !code.matches(".*\\b(floor|ceil)(Div|Mod)\\b.*"));
+            Matcher division = dividing.matcher(code);
+            while (division.find()) {
+                found++;
+                DUE.holds("a divisor is looked at first: " + line, isLookedAt(division.group(1), method));
+            }
+        }
+        DUE.holds("there are divisions", found > 0);
+    }
+
+    private static boolean isLookedAt(String divisor, CharSequence method) {
+        if (divisor.matches("[1-9][0-9]*")) {
+            return true;
+        }
+        if (divisor.equals("(2 * n + 1)")) {
+            return method.toString().contains("isWithin(n, 0, ");
+        }
+        return method.toString().contains(divisor + " > 0") || method.toString().contains(divisor + " < 1");
     }
 }

@@ -9,8 +9,9 @@ import java.util.Random;
 
 /** All promises: random runs of calls, each answer held against the model's. */
 public final class ModelTest {
-    private static final int RUNS = 600;
-    private static final int CALLS = 300;
+    private static final int RUNS = 500;
+    /** "An object is used for at most 512 calls after it has been made; what later calls answer is free." */
+    private static final int CALLS = 512;
     private static final int[] WILD = {Integer.MIN_VALUE, -1000001, -1, 0, 1, 5000, Integer.MAX_VALUE};
     private static final String[] KINDS = {"keep", "ear", "eye", "mix", "feet", "told", "free"};
 
@@ -79,6 +80,9 @@ public final class ModelTest {
     }
 
     private boolean answers(String name, int... a) throws Exception {
+        if (calls == CALLS) {
+            return true;
+        }
         calls++;
         Class<?>[] types = new Class<?>[a.length];
         Arrays.fill(types, int.class);
